@@ -55,6 +55,13 @@ public final class OriginTest {
         x.blocks(4);
         gives(x, 2, 1, NONE, NONE, NONE, NONE, 0, 1, 2, 3);
         gives(x, 2, 2, NONE, NONE, NONE, NONE, NONE, NONE, NONE);
+        x = Check.told("R:abcde;R0:deabc;");
+        gives(x, 2, 1, 3, 4, NONE, NONE, NONE);
+        // The b of ab has a PAIR in the PARENT, so it belongs to no row.
+        x = Check.told("R:abqr;R0:bqrab;");
+        gives(x, 2, 1, NONE, NONE, NONE, NONE, NONE);
+        x.blocks(1);
+        gives(x, 2, 1, NONE, NONE, NONE, 0, NONE);
     }
 
     /** In all of these qrs or qrst have PAIRS; the rest of both sides has none. */

@@ -119,6 +119,11 @@ public final class ToldTest {
         fault("R:;R00:;", 4);
         fault("R:;R:;R01:;", 7);
         fault("R:;R:;R10:;", 7);
+        for (char digit = '0'; digit <= '9'; digit++) {
+            fault("R:;R0" + digit + ":;", 4);
+            fault("R:;R " + digit + "0:;", 5);
+            fault("R:" + digit + ";", 2);
+        }
         fault("R:;R000000000000000000000:;", 4);
         fault("R:;R99999999999999999999999999999:;", 4);
         fault("R:;R4294967296:;", 4);
@@ -206,5 +211,16 @@ public final class ToldTest {
         Check.type(x, "R:ab;R:abc;R1:z;");
         x.history();
         CHECK.due("as if told first", Check.look(x).equals(Check.look(Check.told("R:ab;R:abc;R1:z;"))));
+        Check.type(x, "R:ab;");
+        x.history();
+        CHECK.due("fewer: line(1, 0, 0)", x.line(1, 0, 0), LineOrigins.BAD);
+        CHECK.due("fewer: revision(1, 0)", x.revision(1, 0), LineOrigins.BAD);
+        CHECK.due("fewer: count(4)", x.count(4), 2);
+        x = Check.told("R:abcde;R0:deabc;");
+        CHECK.due("moved: line(1, 0, 3)", x.line(1, 0, 3), 2);
+        Check.type(x, "R:abcde;R0:xyabc;");
+        x.history();
+        CHECK.due("not moved any more: line(1, 0, 3)", x.line(1, 0, 3), LineOrigins.NONE);
+        CHECK.due("not moved any more: line(1, 1, 3)", x.line(1, 1, 3), LineOrigins.NONE);
     }
 }
