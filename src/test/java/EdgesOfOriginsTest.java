@@ -143,6 +143,8 @@ public final class EdgesOfOriginsTest {
     private static void keptInAnother() {
         run("16: KEPT of a REVISION in another one", MERGE).row("kept(0, %)", 2, 2, 2, 2, 0)
                 .row("kept(1, %)", 0, 1, 0, 1, 0).row("kept(2, %)", 0, 0, 1, 1, 0).row("kept(4, %)", 0, 0, 0, 0, 0);
+        run("16: KEPT, of eight LINES, none of the next REVISION", "R:abcdefgh;R:a;R1:a;").row("kept(0, %)", 8, 0, 0)
+                .row("kept(1, %)", 0, 1, 1);
         run("16: KEPT, all eight", "R:abcdefgh;R0:abcdefgh;R1:;").row("kept(0, %)", 8, 8, 0);
     }
 

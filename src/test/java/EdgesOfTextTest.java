@@ -329,6 +329,12 @@ public final class EdgesOfTextTest {
         fault(sentence, "R:;R101:;", 4);
         fault(sentence, "R:;R999:;", 4);
         fault(sentence, "R:;R0 100:;", 6);
+        for (int number = 8; number <= 101; number++) {
+            fault(sentence, "R:;".repeat(7) + "R" + number + ":;", 22);
+            fault(sentence, "R:;".repeat(7) + "R " + number + " :;", 23);
+            fault(sentence, "R:;".repeat(7) + "R0 " + number + " :;", 24);
+            fault(sentence, "R:;".repeat(7) + "R0 " + number + ";", 24);
+        }
         // What would be 0 again if it wrapped around.
         fault(sentence, "R:;R256:;", 4);
         fault(sentence, "R:;R65536:;", 4);
