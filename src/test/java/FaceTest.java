@@ -20,7 +20,8 @@ public final class FaceTest {
         check.due("FULL", LineOrigins.FULL, -3);
         check.due("NONE", LineOrigins.NONE, -9);
         check.due("the class is public and final",
-                Modifier.isPublic(LineOrigins.class.getModifiers()) && Modifier.isFinal(LineOrigins.class.getModifiers()));
+                Modifier.isPublic(LineOrigins.class.getModifiers())
+                        && Modifier.isFinal(LineOrigins.class.getModifiers()));
         check.due("the methods are those of the document", methods(check).equals(Set.of(METHODS)));
         fields(check);
         constructors(check);
@@ -34,7 +35,8 @@ public final class FaceTest {
                 continue;
             }
             boolean isPublic = Modifier.isPublic(method.getModifiers());
-            check.due(method.getName() + " is public or private", isPublic || Modifier.isPrivate(method.getModifiers()));
+            check.due(method.getName() + " is public or private",
+                    isPublic || Modifier.isPrivate(method.getModifiers()));
             if (isPublic) {
                 found.add(method.getName() + " " + method.getParameterCount());
                 check.due(method.getName() + " answers int", method.getReturnType() == int.class);
@@ -50,7 +52,8 @@ public final class FaceTest {
             int modifiers = field.getModifiers();
             check.due(field.getName() + " is public or private",
                     Modifier.isPublic(modifiers) || Modifier.isPrivate(modifiers));
-            check.due(field.getName() + ", if static, is final", !Modifier.isStatic(modifiers) || Modifier.isFinal(modifiers));
+            check.due(field.getName() + ", if static, is final",
+                    !Modifier.isStatic(modifiers) || Modifier.isFinal(modifiers));
             if (Modifier.isPublic(modifiers)) {
                 found.add(field.getName());
             }

@@ -77,7 +77,8 @@ public final class LanguageTest {
     /** Objects and rows are made where fields are, and nowhere in a method. */
     private static void onlyConstructorsMakeObjects(String code) {
         for (String row : code.split("\n")) {
-            CHECK.due("made with the object: " + row, !row.contains("new ") || row.matches(" +private final .* = new .*;"));
+            CHECK.due("made with the object: " + row,
+                    !row.contains("new ") || row.matches(" +private final .* = new .*;"));
         }
     }
 

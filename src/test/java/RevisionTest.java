@@ -32,8 +32,8 @@ public final class RevisionTest {
 
     private static void badRevision() {
         LineOrigins x = Check.told("R:abc;R0:;");
-        int[][] wrong = {{2, 0}, {-1, 0}, {0, 4}, {0, -1}, {8, 0}, {9, 9}, {Integer.MAX_VALUE, 0}, {Integer.MIN_VALUE, 0},
-            {0, Integer.MIN_VALUE}, {0, Integer.MAX_VALUE}};
+        int[][] wrong = {{2, 0}, {-1, 0}, {0, 4}, {0, -1}, {8, 0}, {9, 9}, {Integer.MAX_VALUE, 0},
+            {Integer.MIN_VALUE, 0}, {0, Integer.MIN_VALUE}, {0, Integer.MAX_VALUE}};
         for (int[] call : wrong) {
             CHECK.due("revision(" + call[0] + ", " + call[1] + ")", x.revision(call[0], call[1]), LineOrigins.BAD);
         }

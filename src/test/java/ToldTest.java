@@ -159,7 +159,8 @@ public final class ToldTest {
 
     private static void otherLetters() {
         for (int letter = 0; letter <= 255; letter++) {
-            if (letter == ' ' || (letter >= '0' && letter <= ';') || (letter >= 'a' && letter <= 'z') || letter == 'R') {
+            if (letter == ' ' || (letter >= '0' && letter <= ';') || (letter >= 'a' && letter <= 'z')
+                    || letter == 'R') {
                 continue;
             }
             fault("" + (char) letter, 0);
